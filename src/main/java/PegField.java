@@ -3,6 +3,7 @@ public final class PegField {
     public static final int NONE = -1, UNKNOWN = -101, OUTSIDE = -102, STATE = -103, FULL = -104;
 
     private static final int MAX_LETTERS = 18;
+    private static final int MIN_SIDE = 2, MAX_SIDE = 4;
     private static final int MAX_PLACES = 12;
     private static final int MAX_PEGS = 7;
     // ADD thinks of one peg more than a board can tell.
@@ -23,9 +24,10 @@ public final class PegField {
     // By the kind as which a peg is taken: which kinds are such, as bits. A BOTH is a SLANT, too.
     private static final int[] TAKEN_AS = {31, 18, 4, 8, 16};
 
+    // What can be asked of a peg: 0 go straight, 1 go aslant, and these.
     private static final int BE_JUMPED_OVER = 2, STAY = 3;
     private static final int QUESTIONS = 4;
-    // By the question (0 go straight, 1 go aslant, and those above): which kinds could do that, as bits.
+    // By the question: which kinds could do that, as bits.
     private static final int[] WHO_COULD = {29, 18, 27, 23};
 
     // In this order the place to which a jump leads grows, so the first jump found is the least.
@@ -432,7 +434,7 @@ public final class PegField {
                 }
             }
         }
-        here.end(state);
+        here.end(state.onBoard, state.aloneBit());
     }
 
     private static long nextSeed(long seed) {
@@ -490,8 +492,8 @@ public final class PegField {
 
         /** How many rows or columns the letter tells; 0 if it is no such digit. */
         int digitAt(int index) {
-            int code = codeAt(index);
-            return code >= '2' && code <= '4' ? code - '0' : 0;
+            int told = codeAt(index) - '0';
+            return told >= MIN_SIDE && told <= MAX_SIDE ? told : 0;
         }
 
         int kindAt(int index) {
@@ -557,7 +559,8 @@ public final class PegField {
         private final int[] beside = new int[MAX_PLACES * DIRECTIONS];
 
         void lay(int newRows, int newColumns) {
-            if (newRows < 1 || newColumns < 1 || newRows * newColumns > MAX_PLACES) {
+            boolean isSmall = newRows > 0 && newRows <= MAX_SIDE && newColumns > 0 && newColumns <= MAX_SIDE;
+            if (!isSmall || newRows * newColumns > MAX_PLACES) {
                 return;
             }
             rows = newRows;
@@ -829,14 +832,15 @@ public final class PegField {
             choices++;
         }
 
-        void end(State state) {
+        /** All jumps are counted in; without one, the course ends here with so many pegs on the board. */
+        void end(int onBoard, int aloneBit) {
             if (choices > 0) {
                 mean /= choices;
             } else {
-                fewest = state.onBoard;
+                fewest = onBoard;
                 ways = 1;
-                alone = state.aloneBit();
-                mean = 1000 * state.onBoard;
+                alone = aloneBit;
+                mean = 1000 * onBoard;
             }
         }
     }

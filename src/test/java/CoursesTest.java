@@ -6,6 +6,7 @@ public final class CoursesTest {
         courses();
         coursesByHand();
         coursesFollowWhatIsDone();
+        eachIsLookedUp();
         nothingIsDoneByLooking();
         refusals();
         add();
@@ -42,6 +43,10 @@ public final class CoursesTest {
         all("23;sp.###", 1, 2, 1, 1, 1, 4, 1, 2, 1000);
         all("33;x...p....", 1, 8, 1, 1, 1, 256, 1, 8, 1000);
         all("33;b...b....", 1, 8, 1, 1, 1, 256, 1, 8, 1000);
+        all("33;....p...x", 1, 100, 1, 1, 1, 1, 1, 100, 1000);
+        // Two jumps of one peg, as good one as the other: the least.
+        all("33;bp.p##.##", 2, 2, 2, 1, 1, 0, 1, 2, 2000);
+        all("33;##b#pp.#.", 2, 6, 2, 1, 1, 0, 1, 6, 2000);
     }
 
     /** Boards whose courses are told by hand beside them. */
@@ -86,6 +91,25 @@ public final class CoursesTest {
         Due.type(x, "23;fp.###");
         x.board();
         all(x, "another board", 0, 2, 1, 1, 1, 0, 1, 2, 0);
+    }
+
+    /** Each asked for by itself, first of all calls after something was done. */
+    private static void eachIsLookedUp() {
+        PegField x = Due.on("24;.fp.####");
+        due.is("mean at first", x.mean(), 500);
+        x.plug(3);
+        due.is("mean then", x.mean(), 1000);
+        x.bore(3);
+        due.is("wins then", x.wins(1), 3);
+        x.plug(3);
+        due.is("wins by another", x.wins(1), 100);
+        x.jump(1, 0);
+        due.is("wins no more", x.wins(0), 0);
+        x.put(0, 1);
+        due.is("courses then", x.courses(5), 4);
+        due.is("courses, FIRST", x.courses(1), 102);
+        x.be(0, 2);
+        due.is("mean of the stone", x.mean(), 2000);
     }
 
     private static void nothingIsDoneByLooking() {

@@ -26,6 +26,9 @@ public final class DoneTest {
         PegField slant = Due.on("33;x...p....");
         due.is("a jump aslant", slant.jump(0, 8), 1);
         due.is("it is there", slant.peg(0, 1), 8);
+        slant = Due.on("33;....p...x");
+        due.is("a jump aslant, the other way", slant.jump(1, 0), 1);
+        due.is("it is there", slant.peg(1, 1), 0);
     }
 
     private static void jumpRefused() {
@@ -133,7 +136,9 @@ public final class DoneTest {
         due.is("it can be", x.peg(0, 2), 4);
         due.is("be a slant", x.be(0, 1), 0);
         due.is("it goes aslant alone", x.peg(0, 2), 0);
-        due.is("be frail", x.be(0, 3), 1);
+        due.is("be plain", x.be(0, 0), 1);
+        due.is("it goes straight", x.peg(0, 2), 4);
+        due.is("be frail", x.be(0, 3), 0);
         due.is("be frail again", x.be(0, 3), 3);
         due.is("it goes off", x.jump(0, 2), 0);
         due.is("be both, while OFF", x.be(0, 4), 3);

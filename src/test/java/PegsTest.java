@@ -49,6 +49,9 @@ public final class PegsTest {
         targets("23;sp.###", 0, 1 << 2);
         targets("23;fp.###", 0, 1 << 2);
         targets("33;p...p....", 0, 0);
+        targets("33;....p...p", 1, 0);
+        targets("33;..p.p....", 0, 0);
+        targets("33;....p.p..", 1, 0);
         targets("33;s...p....", 0, 0);
         targets("33;f...p....", 0, 0);
         targets("33;ppppp....", 1, 1 << 7);

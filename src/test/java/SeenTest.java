@@ -75,6 +75,7 @@ public final class SeenTest {
         runs("24;.fp.####", 1, 3, 1, 1, 1163074432);
         runs("24;.pf.####", 1, 3, 1, 0, 1163074432);
         runs("23;pp.###", 1, 3, 1, 1, 1163074432);
+        runs("33;....p...x", 1, 3, 1, 1, 1163074432);
     }
 
     private static void runsDrawEachJump() {

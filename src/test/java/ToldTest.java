@@ -4,6 +4,7 @@ public final class ToldTest {
 
     public static void main(String[] args) {
         image();
+        imageKeepsWhatIsSeen();
         restoreRefused();
         count();
         digestOfNoBoard();
@@ -46,8 +47,28 @@ public final class ToldTest {
         x.plug(0);
         due.is("the latest", x.restore(), 2);
         due.is("its pegs", x.count(4), 1);
+        due.is("its sorts", x.peg(1, 3), 29);
         Due.type(x, "2");
         due.is("restore leaves the page", x.restore() + 10 * x.count(8), 12);
+    }
+
+    private static void imageKeepsWhatIsSeen() {
+        PegField x = Due.on("22;pp..");
+        for (int what = 0; what <= 3; what++) {
+            x.see(0, what, true);
+        }
+        x.see(1, 0, false);
+        x.see(1, 2, true);
+        x.image();
+        x.forget();
+        for (int seen = 1; seen <= 6; seen++) {
+            x.see(1, 2, false);
+        }
+        x.restore();
+        due.is("sorts of 0", x.peg(0, 3), 16);
+        due.is("sorts of 1", x.peg(1, 3), 2);
+        due.is("seen", x.count(7), 6);
+        due.is("see", x.see(0, 0, true), PegField.FULL);
     }
 
     private static void restoreRefused() {
