@@ -123,9 +123,11 @@ public final class PegsTest {
         due.is("as without a board", new PegField().as(0, 0), PegField.UNKNOWN);
         x.be(0, 4);
         due.is("as another kind", x.as(0, 1), 0);
-        PegField off = Due.on("23;ppx###");
-        off.plug(3);
-        due.is("as OFF", off.as(2, 1), 2);
+        PegField off = Due.on("23;fb.###");
+        off.jump(0, 2);
+        due.is("as, OFF", off.as(0, 3), 0);
+        due.is("as, OFF, the other", off.as(1, 1), 1);
+        due.is("as none such, OFF", off.as(0, 1), PegField.NONE);
     }
 
     private static void places() {
