@@ -1,4 +1,4 @@
-/** Long runs of calls, drawn by a seed, on the program and on the model: both must answer alike. */
+/** Long runs of calls, drawn by a seed, and small boards of all sorts: the program and the model must answer alike. */
 public final class ModelTest {
     private static final int RUNS = 500;
     private static final int CALLS = 512;
@@ -12,7 +12,42 @@ public final class ModelTest {
             seed = 1000003L * run + 17;
             run(run);
         }
+        boards("22", 1);
+        boards("23", 5);
+        boards("32", 5);
         due.end();
+    }
+
+    /** Of all texts of that head that have a board's signs, one out of so many. */
+    private static void boards(String head, int outOf) {
+        String signs = ".#" + SIGNS;
+        int places = (head.charAt(0) - '0') * (head.charAt(1) - '0');
+        int texts = 1;
+        for (int place = 0; place < places; place++) {
+            texts *= signs.length();
+        }
+        for (int number = 0; number < texts; number += outOf) {
+            StringBuilder text = new StringBuilder(head).append(';');
+            for (int place = 0, left = number; place < places; place++, left /= signs.length()) {
+                text.append(signs.charAt(left % signs.length()));
+            }
+            board(text.toString(), number);
+        }
+    }
+
+    private static void board(String text, int by) {
+        PegField x = new PegField();
+        Model m = new Model();
+        Due.type(x, text);
+        for (int index = 0; index < text.length(); index++) {
+            m.letter(text.charAt(index));
+        }
+        due.is(text + " fault", x.fault(), m.fault());
+        due.is(text + " board", x.board(), m.board());
+        due.is(text + " digest", x.digest(), m.digest());
+        due.is(text + " add", x.add(), m.add());
+        due.is(text + " runs", x.runs(3, by, 2), m.runs(3, by, 2));
+        due.is(text + " runs, alone", x.runs(3, by, 1), m.runs(3, by, 1));
     }
 
     /** From 0 to one less than the bound. */
